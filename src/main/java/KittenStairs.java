@@ -800,7 +800,7 @@ public final class KittenStairs {
         final int[] letters = new int[MAX_ORDERS];
         final int[] parts = new int[MAX_ORDERS * PARTS];
         int size = 0;
-        /** The place up to which the text is read: no character before it is a fault. */
+        // The place up to which the text is read: no character before it is a fault.
         private int at = 0;
 
         int letter(int order) {
@@ -854,33 +854,26 @@ public final class KittenStairs {
         }
 
         private boolean readDigit(Pad pad, int place) {
-            return keep(place, digit(pad));
+            int value = digit(pad);
+            return value >= 0 && keep(place, value);
         }
 
         private boolean readNumber(Pad pad, int place) {
-            return keep(place, number(pad));
+            int value = number(pad);
+            return value >= 0 && keep(place, value);
         }
 
         private boolean readBy(Pad pad, int place) {
             boolean down = pad.signAt(at) == '-';
             if (!readSign(pad, '-') && !readSign(pad, '+')) return false;
-            if (!readNumber(pad, place)) return false;
-            if (down && hasPart(size, place)) parts[size * PARTS + place] = -parts[size * PARTS + place];
-            return true;
+            int steps = number(pad);
+            return steps >= 0 && keep(place, down ? -steps : steps);
         }
 
         private boolean keep(int place, int value) {
-            if (value < 0 || !hasPart(size, place)) return false;
+            if (!hasPart(size, place)) return false;
             parts[size * PARTS + place] = value;
             return true;
-        }
-
-        /** NONE if no digit stands there. */
-        private int digit(Pad pad) {
-            int sign = pad.signAt(at);
-            if (sign < '0' || sign > '9') return NONE;
-            at++;
-            return sign - '0';
         }
 
         /** NONE if no number stands there. */
@@ -890,6 +883,14 @@ public final class KittenStairs {
             if (first <= 0) return first;
             int second = digit(pad);
             return second < 0 ? first : 10 * first + second;
+        }
+
+        /** NONE if no digit stands there. */
+        private int digit(Pad pad) {
+            int sign = pad.signAt(at);
+            if (sign < '0' || sign > '9') return NONE;
+            at++;
+            return sign - '0';
         }
     }
 }
