@@ -12,6 +12,7 @@ public final class ChangesTest {
         leapLaysAndWinds();
         leapRefusals();
         leapBall();
+        leapAllBalls();
         nap();
         snip();
         snipJoins();
@@ -192,6 +193,27 @@ public final class ChangesTest {
         due.is("what it winds back at edge 1 does for edge 0", x.why(1, -2), 0);
         due.is("down to edge 1 alone", x.leap(1, -1), 1);
         due.is("one length", x.of(1, 3), 1);
+    }
+
+    private static void leapAllBalls() {
+        KittenStairs x = roomy(14, 14, 14, 14, 14, 14);
+        x.set(KittenStairs.BIND, 15);
+        for (int i = 0; i < 40; i++) {
+            for (int k = 0; k < 6; k++) due.is("leap", x.leap(k, i % 2 == 0 ? 1 : -1), i % 2 == 0 ? 15 : 14);
+            x.pass(3);
+        }
+        due.is("all yarn lies at one edge", x.ofEdge(14, 0), 240);
+        due.is("all yarn lies", x.count(3), 240);
+        due.is("the top one", x.strand(14, 239), 5);
+        due.is("no more than that", x.strand(14, 240), NO_SUCH);
+        due.is("pairs", x.ofEdge(14, 3), 15);
+        due.is("frees", x.frees(0, 5), 39);
+        due.is("no ball is left", x.why(0, 1), 6);
+        due.is("save", x.save(0), 6);
+        due.is("snip", x.snip(14, 5), 40);
+        due.is("restore", x.restore(0), 6);
+        due.is("the last one is wound back", x.leap(5, 1), 15);
+        due.is("all but one", x.count(3), 239);
     }
 
     private static void nap() {
