@@ -302,6 +302,12 @@ public final class ChangesTest {
         x.pass(2);
         due.is("one is over", x.count(10), 15);
         due.is("room for one", x.plan(1, 0, 1), 16);
+        x = new KittenStairs();
+        x.set(KittenStairs.VIM, 60);
+        x.kitten(5);
+        for (int i = 0; i < 16; i++) x.plan(7, 0, i % 2 == 0 ? 1 : -1);
+        due.is("sixteen in one turn", x.pass(7), 16);
+        due.is("none is left", x.count(10), 0);
     }
 
     private static void pass() {

@@ -31,8 +31,33 @@ public final class HistoryTest {
         due.is("errors record nothing", x.count(16), 1);
     }
 
-    /** Each kind of change is undone with all that it did. */
+    /** Each kind of change is undone with all that it did, and with nothing that was done before it. */
     private static void undoAll() {
+        KittenStairs x = busy();
+        undoes(x, "set", Snapshot.of(x), x.set(KittenStairs.NAP, 30));
+        x = busy();
+        undoes(x, "kitten", Snapshot.of(x), x.kitten(7));
+        x = busy();
+        undoes(x, "leap", Snapshot.of(x), x.leap(0, -2));
+        x = busy();
+        undoes(x, "nap", Snapshot.of(x), x.nap(0));
+        x = busy();
+        undoes(x, "snip", Snapshot.of(x), x.snip(3, 0));
+        x = busy();
+        undoes(x, "plan", Snapshot.of(x), x.plan(1, 1, 1));
+        x = busy();
+        undoes(x, "pass", Snapshot.of(x), x.pass(9));
+        x = busy();
+        Due.write(x, "g0+1;t9");
+        undoes(x, "carryOut", Snapshot.of(x), x.carryOut());
+        x = new KittenStairs();
+        x.save(0);
+        x.kitten(3);
+        undoes(x, "restore", Snapshot.of(x), x.restore(0));
+        due.is("it can be restored still", x.restore(0), 0);
+    }
+
+    private static KittenStairs busy() {
         KittenStairs x = new KittenStairs();
         x.kitten(3);
         x.kitten(3);
@@ -40,25 +65,14 @@ public final class HistoryTest {
         x.nap(1);
         x.plan(2, 0, -1);
         x.plan(3, 0, 9);
-        String ahead = Snapshot.of(x);
-        undoes(x, ahead, x.set(KittenStairs.NAP, 30));
-        undoes(x, ahead, x.kitten(7));
-        undoes(x, ahead, x.leap(0, -2));
-        undoes(x, ahead, x.nap(0));
-        undoes(x, ahead, x.snip(3, 0));
-        undoes(x, ahead, x.plan(1, 1, 1));
-        undoes(x, ahead, x.pass(9));
-        Due.write(x, "g0+1;t9");
-        undoes(x, ahead, x.carryOut());
-        x.save(0);
-        undoes(x, ahead, x.restore(0));
-        due.is("it can be restored still", x.restore(0), 2);
+        return x;
     }
 
-    private static void undoes(KittenStairs x, String ahead, int answer) {
-        due.holds("a change was made", answer >= 0);
+    private static void undoes(KittenStairs x, String change, String ahead, int answer) {
+        due.holds("a change was made by " + change, answer >= 0);
+        due.holds("something is different by " + change, !Snapshot.of(x).equals(ahead));
         x.undo();
-        due.holds("all is as it was ahead", Snapshot.of(x).equals(ahead));
+        due.holds("all is as it was ahead of " + change, Snapshot.of(x).equals(ahead));
     }
 
     private static void undoMany() {

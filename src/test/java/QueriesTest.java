@@ -105,6 +105,7 @@ public final class QueriesTest {
         due.is("ofEdge(15, 4)", x.ofEdge(15, 4), NO_SUCH);
         due.is("ofEdge(0, -1)", x.ofEdge(0, -1), BAD_VALUE);
         due.is("ofEdge(0, 4)", x.ofEdge(0, 4), BAD_VALUE);
+        due.is("kittens with one strand each", laid(14, "01").ofEdge(14, 2), 0b11);
         due.is("all three pairs", laid(3, "012012").ofEdge(3, 3), 3);
         due.is("one pair is free", laid(3, "010121").ofEdge(3, 3), 2);
     }
@@ -151,9 +152,17 @@ public final class QueriesTest {
 
     private static void boundOrders() {
         String[] free = {"0", "01", "021", "0201", "0212", "1202"};
-        for (String order : free) due.is("bound by " + order, laid(14, order).bound(0, 1), 0);
+        for (String order : free) {
+            due.is("bound by " + order, laid(14, order).bound(0, 1), 0);
+            due.is("bound at the lowest edge by " + order, laid(0, order).bound(0, 1), 0);
+            due.is("the other way round by " + order, laid(0, order).bound(1, 0), 0);
+        }
         String[] held = {"010", "101", "0210", "02120", "1021", "0101", "20102"};
-        for (String order : held) due.is("bound by " + order, laid(14, order).bound(0, 1), 1 << 14);
+        for (String order : held) {
+            due.is("bound by " + order, laid(14, order).bound(0, 1), 1 << 14);
+            due.is("bound at the lowest edge by " + order, laid(0, order).bound(0, 1), 1);
+            due.is("the other way round by " + order, laid(0, order).bound(1, 0), 1);
+        }
         // Only its own strands lie next to one another when the other's are snipped.
         KittenStairs x = laid(7, "0101210");
         due.is("bound to 0 and 2", x.of(1, 8), 0b101);
@@ -205,6 +214,10 @@ public final class QueriesTest {
         due.is("count(-1)", x.count(-1), BAD_VALUE);
         due.is("count(17)", x.count(17), BAD_VALUE);
         due.is("pairs", laid(3, "012012").count(7), 3);
+        due.is("pairs at the lowest edge", laid(0, "012012").count(7), 3);
+        due.is("pairs at the highest edge", laid(14, "012012").count(7), 3);
+        x.nap(0);
+        due.is("0 and 2 nap", x.count(2), 0b101);
         due.is("a pair that is bound at two edges", twiceBound().count(7), 1);
     }
 

@@ -140,6 +140,11 @@ public final class TextsTest {
         due.is("strand at 5", x.strand(5, 0), NO_SUCH);
         due.is("turn", x.count(0), 1);
         due.is("leaps", x.count(8), 2);
+        Due.write(x, "k10;x9.1;p10:2+2");
+        due.is("three", x.carryOut(), 3);
+        due.is("snipped of 1", x.of(1, 7), 1);
+        due.is("in 10 turns", x.planned(2, 0), 11);
+        due.is("a number that ends with 0", x.of(2, 0), 10);
         Due.write(x, "t99");
         due.is("t99", x.carryOut(), 1);
         due.is("turn", x.count(0), 100);

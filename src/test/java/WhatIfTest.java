@@ -158,6 +158,11 @@ public final class WhatIfTest {
         due.is("1 lays", x.ifLeapt(1, -3, 0), 2);
         due.is("nothing changed", x.bound(0, 1) + x.of(0, 0) + x.count(8), 9);
         due.is("no change is recorded", x.count(16), 6);
+        x.leap(1, -1);
+        due.is("not what was wound before", x.ifLeapt(0, -2, 1), 1);
+        x.leap(1, 1);
+        due.is("of 1, too", x.ifLeapt(1, -3, 1), 1);
+        due.is("not what was laid before", x.ifLeapt(1, -3, 0), 2);
         x = laid(6, "0210");
         due.is("0 would be free of both", x.ifLeapt(0, 1, 3), 0b110);
         due.is("0 would be bound to none", x.ifLeapt(0, 1, 2), 0);
