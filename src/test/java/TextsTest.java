@@ -167,6 +167,10 @@ public final class TextsTest {
         due.is("none", x.carryOut(), 0);
         due.is("also a change", x.count(16), 1);
         due.is("with an empty pad", x.count(15), 0);
+        x = written("t1;t1;t1");
+        due.is("three", x.carryOut(), 3);
+        Due.write(x, "t1");
+        due.is("nothing of the text before", x.carryOut(), 1);
         x = written("k1;k1;k1;k1;k1;k1;k1");
         due.is("six kittens", x.carryOut(), 6);
     }
