@@ -1,8 +1,10 @@
 import java.util.Random;
 
-/** Compares the class with the model over runs of 512 calls, whose arguments are drawn from fixed seeds. */
+/** Compares the class with the model over runs of 512 calls at most, whose arguments are drawn from fixed seeds. */
 public final class ModelTest {
     private static final int RUNS = 1000, CALLS = 512;
+    // The most calls that one row of a run makes, and those of the look at all things behind its last row.
+    private static final int CALLS_OF_A_ROW = 16, LAST_CALLS = 100;
     // Each run has a theme: how many of 100 calls leap, change something else, are about texts, and ask ...
     private static final int[][] SHARES = {{40, 20, 10, 15}, {75, 10, 2, 5}, {10, 60, 5, 15}, {5, 80, 2, 8}, {20, 20, 50, 5}};
     // ... and among which kinds of other changes it chooses, as change() names them.
@@ -21,6 +23,7 @@ public final class ModelTest {
     private final boolean calm;
     private final int theme;
     private int leaps = 0;
+    private int calls = 0;
 
     private ModelTest(int run) {
         this.run = run;
@@ -37,13 +40,11 @@ public final class ModelTest {
     }
 
     private void go() {
-        int called = 0;
         if (calm) {
             compare("set", x.set(3, 60), model.set(3, 60));
             compare("set", x.set(1, 15), model.set(1, 15));
-            called = 2;
         }
-        for (; called < CALLS; called++) {
+        while (calls + CALLS_OF_A_ROW + LAST_CALLS <= CALLS) {
             int[] shares = SHARES[theme];
             int kind = random.nextInt(100);
             if (kind < shares[0]) leap();
@@ -52,9 +53,22 @@ public final class ModelTest {
             else if (kind < shares[0] + shares[1] + shares[2] + shares[3]) ask();
             else whatIf();
         }
+        lookAtAll();
+        due.holds("run " + run + " is no longer than " + CALLS + ", it has " + calls, calls <= CALLS);
+    }
+
+    private void lookAtAll() {
+        for (int what = 0; what <= 16; what++) compare("at last count(" + what + ")", x.count(what), model.count(what));
+        int kittens = model.count(1);
+        for (int k = 0; k < kittens; k++) {
+            for (int what = 0; what <= 9; what++) compare("at last of(" + k + ", " + what + ")", x.of(k, what), model.of(k, what));
+        }
+        compare("at last undo()", x.undo(), model.undo());
+        for (int what = 0; what <= 16; what++) compare("then count(" + what + ")", x.count(what), model.count(what));
     }
 
     private void compare(String call, int answered, int expected) {
+        calls++;
         due.is("run " + run + ": " + call, answered, expected);
     }
 
@@ -161,7 +175,7 @@ public final class ModelTest {
         for (int i = 0; i < orders; i++) text.append(i == 0 ? "" : ";").append(order());
         if (random.nextInt(6) == 0) text.setCharAt(random.nextInt(text.length()), "kgnxpt0123456789+-.:;!~".charAt(random.nextInt(23)));
         for (int from = 0; from < text.length(); from += 8) {
-            long part = Due.packed(text.substring(from, Math.min(from + 8, text.length())));
+            long part = Scenes.packed(text.substring(from, Math.min(from + 8, text.length())));
             compare("put(" + part + ")", x.put(part), model.put(part));
         }
         compare("fault behind " + text, x.fault(), model.fault());
