@@ -23,6 +23,7 @@ public final class ChangesTest {
         napNoKitten();
         napNapping();
         snipReturnsHowMany();
+        snipEachEdge();
         snipLost();
         snipNothingThere();
         snipJoins();
@@ -318,6 +319,20 @@ public final class ChangesTest {
         due.is("two that lie next to one another", x.snip(5, 0), 2);
         x = Scenes.shortBalls(0);
         due.is("all of a ball", x.snip(0, 0), 40);
+    }
+
+    private static void snipEachEdge() {
+        due.sentence("Snips all strands of a kitten at an edge");
+        KittenStairs x = Scenes.roomy(15, 15, 15, 15, 15, 15);
+        for (int k = 0; k < 6; k++) x.leap(k, -15);
+        for (int edge = 0; edge <= 14; edge++) {
+            int k = edge % 6;
+            due.is("snip at " + edge, x.snip(edge, k), 1);
+            due.is("others stay", x.ofEdge(edge, 2), 0b111111 & ~(1 << k));
+            for (int rank = 0; rank < 5; rank++) due.is("in their order", x.strand(edge, rank), rank < k ? rank : rank + 1);
+        }
+        for (int k = 0; k < 6; k++) due.is("snipped of " + k, x.of(k, 7), k < 3 ? 3 : 2);
+        due.is("all that lie", x.count(3), 75);
     }
 
     private static void snipLost() {

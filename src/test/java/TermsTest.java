@@ -17,6 +17,7 @@ public final class TermsTest {
         ballLengths();
         boundAtAnEdge();
         boundAtSomeEdge();
+        boundOfEachPair();
         leapOverEdges();
         leapCost();
         firstReason();
@@ -297,6 +298,38 @@ public final class TermsTest {
         due.is("bound at edge 1 alone", x.bound(0, 1), 2);
         x.leap(0, 2);
         due.is("bound no more", x.bound(0, 1), 0);
+    }
+
+    private static void boundOfEachPair() {
+        due.sentence("Two kittens are bound at an edge");
+        for (int edge : new int[] {0, 7, 14}) {
+            for (int a = 0; a < 6; a++) {
+                for (int b = 0; b < 6; b++) if (a != b) boundPair(edge, a, b);
+            }
+        }
+    }
+
+    /** A strand of one lies between two of the other one. */
+    private static void boundPair(int edge, int outer, int inner) {
+        KittenStairs x = Scenes.roomy(edge, edge, edge, edge, edge, edge);
+        x.leap(outer, 1);
+        x.leap(inner, 1);
+        due.is("outer would be bound", x.ifLeapt(outer, -1, 2), 1 << inner);
+        x.leap(outer, -1);
+        for (int k = 0; k < 6; k++) due.is("of " + k, x.of(k, 8), k == outer ? 1 << inner : k == inner ? 1 << outer : 0);
+        due.is("bound", x.bound(outer, inner), 1 << edge);
+        due.is("the other way round", x.bound(inner, outer), 1 << edge);
+        due.is("pairs there", x.ofEdge(edge, 3), 1);
+        due.is("pairs", x.count(7), 1);
+        due.is("frees", x.frees(outer, inner) * 10 + x.frees(inner, outer), 11);
+        due.is("outer would be free", x.ifLeapt(outer, 1, 3), 1 << inner);
+        x.set(KittenStairs.BIND, 0);
+        for (int k = 0; k < 6; k++) {
+            // One that is on the upper step leaps up, the others down.
+            int by = k == inner ? 1 : -1;
+            boolean off = x.of(k, 0) + by < 0 || x.of(k, 0) + by > 15;
+            due.is(k + " leaps away", x.why(k, by), off ? 2 : k == inner || k == outer ? 5 : 0);
+        }
     }
 
     private static void leapOverEdges() {
